@@ -265,6 +265,12 @@ public final class PromiseTest {
         tell(x, "H");
         due("an empty hill", x.hill(), 0);
         due("its trees", x.count(7), 0);
+        tell(x, "HC410011");
+        x.hill();
+        tell(x, "HC400010");
+        x.hill();
+        due("nothing of the hill before, parish", x.cock(0, 1), 0);
+        due("nothing of the hill before, points", x.cock(0, 5), 0);
         tell(x, "H" + cocks(6) + "W111W111W111W111");
         due("a full hill", x.hill(), 64);
     }
@@ -313,6 +319,7 @@ public final class PromiseTest {
         x.hold(1);
         due("one held", x.wind(0, 3), 13);
         due("nothing turned", x.count(5), 0);
+        due("tree on 0", turnsBy("HT01C100010W111"), 0);
         due("rust as strong", turnsBy("HC400210W124"), 0);
         due("rust less strong", turnsBy("HC400210W134"), 1);
         due("tree as high", turnsBy("HT32C402010W111"), 1);
@@ -490,6 +497,8 @@ public final class PromiseTest {
         due("one held", x.under(1), 0);
         due("held still", x.count(8), 1);
         due("no act", x.count(9), 2);
+        due("trees on 0 and 2", on(LEE).under(0), 1);
+        due("tree on 0", on("HT01C100020C913410W111").under(0), 1);
         due("under(2)", x.under(2), UNKNOWN);
         due("under(-1)", x.under(-1), UNKNOWN);
         due("under(HIGH)", x.under(HIGH), UNKNOWN);
@@ -503,6 +512,7 @@ public final class PromiseTest {
         x.hold(0);
         due("one held", x.year(0), 9);
         due("none for 1", x.year(1), 0);
+        due("tree on 0", on("HT01C100020C913410W117").year(1), 7);
         due("year(2)", x.year(2), OUTSIDE);
         due("year(-1)", x.year(-1), OUTSIDE);
         due("year(LOW)", x.year(LOW), OUTSIDE);
@@ -675,6 +685,12 @@ public final class PromiseTest {
         x.unsee();
         x.see(0, 0);
         stringsAre(x, "one cock", 1, 1, 0);
+        x.unsee();
+        x.see(0, 1);
+        stringsAre(x, "one cock that turned", 1, 0, 1);
+        tell(x, "HT01C100010W111");
+        x.hill();
+        stringsAre(x, "tree on 0", 0, NONE, NONE);
     }
 
     private static void winds() {
@@ -693,6 +709,12 @@ public final class PromiseTest {
         x.hill();
         due("and are again", x.winds(), 0);
         due("no winds", on("HC400010").winds(), 0);
+        CockWar lee = on("HT01C100010W111");
+        lee.see(0, 0);
+        due("tree on 0", lee.winds(), 1);
+        CockWar held = on("HC000010W111");
+        held.see(0, 1);
+        due("not held, cock 0", held.winds(), 1);
     }
 
     private static void rests() {
@@ -715,6 +737,10 @@ public final class PromiseTest {
         CockWar y = on("HC403410C513030W111");
         due("of PARISH 1", y.rests(0, 0), 2);
         due("first of PARISH 1", y.rests(0, 1), 2);
+        // In the lee of the tree on 0 PARISH 0 loses whatever is held: all four pairs.
+        CockWar lee = on("HT01C100020C913410W111");
+        due("tree on 0", lee.rests(0, 0), 4);
+        due("tree on 0, first", lee.rests(0, 1), 0);
     }
 
     private static void fraction(CockWar x, int wind, int tenths, int above, int below) {
@@ -741,6 +767,7 @@ public final class PromiseTest {
             due("frost(0,-1)", x.frost(0, -1, upper), OUTSIDE);
         }
         fraction(on("HW111"), 0, 4, 1, 1);
+        fraction(on("HT01C100020C913410W111"), 0, 4, 0, 1);
         // All six of PARISH 1 must turn away, or else it has the brook: 0.9 six times.
         fraction(on("HC010010C110010C210010C310010C410010C510010W111"), 0, 1, 531441, 1000000);
     }
@@ -838,6 +865,11 @@ public final class PromiseTest {
         due("the seed stays", x.seed(0), 8);
         x.hold(0);
         due("once more", x.again(1), 1);
+        CockWar y = on(TWO);
+        y.keep(0);
+        y.hold(0);
+        due("on day 0", y.again(0), 0);
+        due("the row is empty on day 0", y.count(9), 0);
         due("held as kept", x.count(8), 2);
         due("again(2)", x.again(2), UNKNOWN);
         due("again(-1)", x.again(-1), UNKNOWN);
