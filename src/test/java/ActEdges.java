@@ -259,6 +259,12 @@ final class ActEdges {
         }).brokenIn("move", "put(now.cells, cock, cell);", "put(now.cells, cock, cell);\n now.held = 0;")
                 .brokenIn("move", "now.takenCells()", "now.takenCells() | now.treeCells()")
                 .brokenIn("move", "bit(now.takenCells(), cell)", "bit(now.takenCells() | 1 << 4, cell)");
+        e.edge("the sixth cock alone", t -> {
+            CockWar x = Due.on(SIX);
+            t.due("move(5,9)", x.move(5, 9), 5);
+            for (int c = 0; c < 6; c++) t.due("cock(" + c + ",0)", x.cock(c, 0), c == 5 ? 9 : c);
+        }).brokenIn("move", "put(now.cells, cock, cell);", "put(now.cells, 0, cell);")
+                .brokenIn("move", "put(now.cells, cock, cell);", "put(now.cells, cock & 3, cell);");
         e.says("UNKNOWN;");
         e.edge("-1 and less are no cock", t -> {
             t.refused("move(-1,0)", UNKNOWN, x -> x.move(-1, 0));
@@ -322,6 +328,13 @@ final class ActEdges {
             t.due("it turns", x.wind(0, 3), 1);
         }).brokenIn("grease", "put(now.rusts, cock, 0);", "put(now.rusts, cock, rust - 1);")
                 .brokenIn("grease", "put(now.rusts, cock, 0);", "put(now.rusts, 0, 0);\n put(now.rusts, 1, 0);");
+        e.edge("the sixth cock's alone", t -> {
+            CockWar x = Due.on("HC000110C100210C200310C300410C400110C500210");
+            t.due("grease(5)", x.grease(5), 2);
+            int[] want = {1, 2, 3, 4, 1, 0};
+            for (int c = 0; c < 6; c++) t.due("cock(" + c + ",3)", x.cock(c, 3), want[c]);
+        }).brokenIn("grease", "put(now.rusts, cock, 0);", "put(now.rusts, 0, 0);")
+                .brokenIn("grease", "put(now.rusts, cock, 0);", "put(now.rusts, cock & 3, 0);");
         e.says("UNKNOWN;");
         e.edge("-1 and less are no cock", t -> {
             t.refused("grease(-1)", UNKNOWN, x -> x.grease(-1));

@@ -89,9 +89,16 @@ final class ChanceEdges {
             x.capture(0);
             fraction(t, x, 0, 5, 0, 1);
         }).brokenIn("brookBy", "return brook;", "return 0;").brokenIn("brookBy", "return brook;", "return 1;");
-        e.edge("who is in the lee of the first cell's tree stays without frost", t -> {
-            fraction(t, Due.on("HT01C110010W111"), 0, 0, 0, 1);
-        }).brokenIn("frost", "now.held | frozen, 0)", "now.held | frozen, 1)");
+        e.edge("who is in the lee of a tree stays without frost, on whatever cell it stands", t -> {
+            for (int tree = 0; tree <= 9; tree++) fraction(t, Due.on(Due.lee(tree, 5, 3)), 0, 0, tree < 9 ? 0 : 1, 1);
+        }).brokenIn("frost", "now.held | frozen, 0)", "now.held | frozen, 1)")
+                .brokenIn("frost", "now.held | frozen, 0)", "now.held | frozen, 2)").brokenIn("frost", "now.held | frozen, 0)", "now.held | frozen, 512)");
+        e.edge("under each wind its own", t -> {
+            for (int number = 0; number < 4; number++) {
+                CockWar x = Due.on(Due.oneTo0("HC400050C510030", number));
+                for (int w = 0; w < 4; w++) fraction(t, x, w, 0, w == number ? 0 : 1, 1);
+            }
+        }).brokenIn("frost", "air.brookUnder(now, wind,", "air.brookUnder(now, 0,");
         e.edge("it only might freeze", t -> {
             t.asksOnly("frost(0,5,true)", x -> x.frost(0, 5, true));
             t.asksOnly("frost(1,10,false)", x -> x.frost(1, 10, false));
@@ -261,6 +268,21 @@ final class ChanceEdges {
             t.due("a new object", new CockWar().years(1), 0);
         }).brokenIn("years", "return 0;", "return m;")
                 .brokenIn("years", "return 0;", "drawn = drawn * SEED_FACTOR + SEED_SUMMAND;\n return 0;");
+        e.edge("of the winds of a hill that is no more none is drawn", t -> {
+            CockWar x = Due.on("HW119W119W019W019");
+            Due.tell(x, "HC400050C510030W111W011");
+            x.hill();
+            for (long seed : SEEDS) {
+                x.seed(seed);
+                t.due("years(30) by " + seed, x.years(30), drawn(seed, 30, 2, 1));
+            }
+            Due.tell(x, "H");
+            x.hill();
+            x.seed(9);
+            t.due("years(30) without winds", x.years(30), 0);
+            t.due("seed", x.seed(0), 9);
+        }).brokenIn("daysInAll", "w < winds", "w <= winds")
+                .brokenIn("years", "inAll < 1", "inAll < 0");
         e.says("(Nothing changes but THE SEED.)");
         e.edge("behind the days all is as ahead, but the seed", t -> {
             CockWar x = Due.busy();

@@ -47,6 +47,27 @@ final class Due {
         return x;
     }
 
+    /**
+     * Cock 0, of this weight, in the lee of a tree on this cell; the other parish's cocks, of these weights,
+     * are all rust. WIND 0 alone, of 2 days, would turn cock 0 were the tree not there.
+     */
+    static String lee(int tree, int weight, int... others) {
+        boolean to9 = tree < 9;
+        int cell = to9 ? tree + 1 : tree - 1;
+        StringBuilder text = new StringBuilder("HT" + tree + "3C" + cell + (to9 ? "100" : "000") + weight + (to9 ? 0 : 1));
+        for (int i = 0; i < others.length; i++) {
+            text.append("C").append((cell + 1 + i) % 10).append(to9 ? "034" : "134").append(others[i]).append(to9 ? 1 : 0);
+        }
+        return text.append(to9 ? "W112" : "W012").toString();
+    }
+
+    /** Four winds of one day each, all towards 9 but the one of this number. */
+    static String oneTo0(String cocks, int number) {
+        StringBuilder text = new StringBuilder(cocks);
+        for (int w = 0; w < 4; w++) text.append(w == number ? "W011" : "W111");
+        return text.toString();
+    }
+
     /** The call is refused so, by an object made so, and the object is as if it had not been called. */
     void refused(String call, int want, Supplier<CockWar> made, ToLongFunction<CockWar> asked) {
         CockWar x = made.get();

@@ -548,6 +548,14 @@ final class HillEdges {
                 .brokenIn("cock", "at(now.weights, cock)", "at(now.cells, cock)")
                 .brokenIn("cock", "bit(now.ways, cock)", "bit(now.ways, 0)")
                 .brokenIn("cock", "bit(now.held, cock)", "now.held");
+        e.edge("the sixth cock's", t -> {
+            CockWar x = Due.on("HC000010C100010C200010C300010C400010C913491");
+            int[] want = {9, 1, 3, 4, 9, 1, 0};
+            for (int what = 0; what <= 6; what++) t.due("cock(5," + what + ")", x.cock(5, what), want[what]);
+        }).brokenIn("", "heights = new int[MOST_COCKS]", "heights = new int[MOST_COCKS - 1]")
+                .brokenIn("", "weights = new int[MOST_COCKS]", "weights = new int[MOST_COCKS - 1]")
+                .brokenIn("", "rusts = new int[MOST_COCKS]", "rusts = new int[MOST_COCKS - 1]")
+                .brokenIn("", "cells = new int[MOST_COCKS]", "cells = new int[MOST_COCKS - 1]");
         e.says("UNKNOWN");
         e.edge("-1 and less are no cock", t -> {
             t.refused("cock(-1,0)", UNKNOWN, x -> x.cock(-1, 0));
@@ -606,11 +614,19 @@ final class HillEdges {
         }).brokenIn("wind", "return now.ways ^ air.waysBehind(now, wind, now.held, 0);",
                 "return 31 & (now.ways ^ air.waysBehind(now, wind, now.held, 0));")
                 .brokenIn("yieldingTo", "int bits = 0;", "int bits = cocks == 0 ? 1 : 0;");
-        e.edge("who is in the lee of the first cell's tree, or of the last one's, does not turn", t -> {
+        e.edge("who is in the lee of a tree does not turn, on whatever cell it stands", t -> {
             CockWar x = Due.on("HT01T91C100010C800011C500010C600011W111W011");
             t.due("to 9", x.wind(0, 3), 4);
             t.due("to 0", x.wind(1, 3), 8);
-        }).brokenIn("wind", "now.held, 0)", "now.held, 1)").brokenIn("wind", "now.held, 0)", "now.held, 512)");
+            for (int tree = 0; tree <= 9; tree++) t.due("tree on " + tree, Due.on(Due.lee(tree, 5)).wind(0, 3), 0);
+        }).brokenIn("wind", "now.held, 0)", "now.held, 1)")
+                .brokenIn("wind", "now.held, 0)", "now.held, 2)").brokenIn("wind", "now.held, 0)", "now.held, 512)");
+        e.edge("by each wind its own", t -> {
+            for (int number = 0; number < 4; number++) {
+                CockWar x = Due.on(Due.oneTo0("HC400010C510011", number));
+                for (int w = 0; w < 4; w++) t.due("wind(" + w + ",3)", x.wind(w, 3), w == number ? 2 : 1);
+            }
+        }).brokenIn("wind", "air.waysBehind(now, wind,", "air.waysBehind(now, 0,");
         e.edge("it only would", t -> {
             t.asksOnly("wind(0,3)", x -> x.wind(0, 3));
             t.asksOnly("wind(1,3)", x -> x.wind(1, 3));

@@ -190,6 +190,21 @@ final class SeenEdges {
             stringsAre(t, x, "all stay", 8, 0, 0);
         }).brokenIn("yieldingTo", "strength > at(rusts, c) && shelter <= at(heights, c)", "shelter <= at(heights, c)")
                 .brokenIn("yieldingTo", "strength > at(rusts, c) && shelter <= at(heights, c)", "strength > at(rusts, c)");
+        e.edge("who is in the lee of a tree may be held or not, on whatever cell it stands", t -> {
+            for (int tree = 0; tree <= 9; tree++) {
+                CockWar x = Due.on(Due.lee(tree, 5, 3));
+                x.see(0, tree < 9 ? 0 : 1);
+                stringsAre(t, x, "tree on " + tree, 4, 0, 0);
+            }
+        }).brokenIn("strings", "held, 0)", "held, 1)")
+                .brokenIn("strings", "held, 0)", "held, 2)").brokenIn("strings", "held, 0)", "held, 512)");
+        e.edge("for each wind its own", t -> {
+            for (int number = 0; number < 4; number++) {
+                CockWar x = Due.on(Due.oneTo0("HC400050C510030", number));
+                x.see(0, 1);
+                for (int w = 0; w < 4; w++) t.due("strings(" + w + ",0)", x.strings(w, 0), w == number ? 0 : 2);
+            }
+        }).brokenIn("strings", "air.waysBehind(now, wind,", "air.waysBehind(now, 0,");
         e.says("STRINGS: how many sets (what = 0), who is in all (1), in none (2), as bits; NONE (of 1, 2): there is none.");
         e.edge("where there is none", t -> {
             CockWar x = Due.on("HC400010C501010W101W111");
@@ -260,12 +275,18 @@ final class SeenEdges {
             t.due("winds", x.winds(), 1);
         }).brokenIn("winds", "air.waysBehind(now, w, 0, 0)", "air.waysBehind(now, w, now.held, 0)")
                 .brokenIn("winds", "air.waysBehind(now, w, 0, 0)", "air.waysBehind(now, w, now.held & 32, 0)");
-        e.edge("who is in the lee of the first cell's tree was seen to stay", t -> {
+        e.edge("who is in the lee of a tree was seen to stay, on whatever cell it stands", t -> {
             CockWar x = Due.on("HT01C100010C510010W111");
             x.see(0, 0);
             x.see(1, 1);
-            t.due("winds", x.winds(), 1);
-        }).brokenIn("winds", "0, 0)", "0, 1)");
+            t.due("one stayed, one turned", x.winds(), 1);
+            for (int tree = 0; tree <= 9; tree++) {
+                CockWar y = Due.on(Due.lee(tree, 5));
+                y.see(0, tree < 9 ? 0 : 1);
+                t.due("tree on " + tree, y.winds(), 1);
+            }
+        }).brokenIn("winds", "0, 0)", "0, 1)")
+                .brokenIn("winds", "0, 0)", "0, 2)").brokenIn("winds", "0, 0)", "0, 512)");
         e.edge("no wind blows, and strings stay", t -> t.asksOnly("winds()", x -> x.winds()))
                 .brokenIn("winds", "int fitting = 0;", "int fitting = 0;\n now.held = 0;")
                 .brokenIn("winds", "return fitting;", "now.days++;\n return fitting;");
@@ -289,6 +310,26 @@ final class SeenEdges {
             t.due("to 9, first", x.rests(0, 1), 2);
         }).brokenIn("mayHold", "bit(now.parishes, choice - 1) == parish", "true")
                 .brokenIn("mayHold", "bit(now.parishes, choice - 1) == parish", "bit(now.parishes, choice - 1) != parish");
+        e.edge("nor does it by another choice", t -> {
+            // PARISH 0 would have the brook if it could hold cock 1 towards 9, for then all would be even.
+            CockWar x = Due.on("HC400031C510051W011");
+            t.due("cock 1 is PARISH 1's", x.rests(0, 0), 2);
+            t.due("cock 1 is PARISH 1's, first", x.rests(0, 1), 0);
+            // PARISH 1 would have it if it could hold cock 0 towards 0: none against 1.
+            CockWar y = Due.on("HC400050C510030C613410W111");
+            t.due("cock 0 is PARISH 0's", y.rests(0, 0), 3);
+            t.due("cock 0 is PARISH 0's, first", y.rests(0, 1), 0);
+        }).brokenIn("isAtRest", "mayHold(0, other) &&", "").brokenIn("isAtRest", "mayHold(1, other) &&", "");
+        e.edge("under each wind its own", t -> {
+            for (int number = 0; number < 4; number++) {
+                CockWar x = Due.on(Due.oneTo0("HC400050C510030", number));
+                for (int w = 0; w < 4; w++) t.due("rests(" + w + ",0)", x.rests(w, 0), w == number ? 4 : 2);
+            }
+        }).brokenIn("brookHeld", "air.brookUnder(now, wind,", "air.brookUnder(now, 0,")
+                .brokenIn("rests", "isAtRest(wind, a, b)", "isAtRest(0, a, b)")
+                .brokenIn("isAtRest", "int owner = brookHeld(wind, a, b)", "int owner = brookHeld(0, a, b)")
+                .brokenIn("isAtRest", "brookHeld(wind, other, b)", "brookHeld(0, other, b)")
+                .brokenIn("isAtRest", "brookHeld(wind, a, other)", "brookHeld(0, a, other)");
         e.edge("nobody else is held, whoever is now", t -> {
             CockWar x = Due.on("HC400050C510030W111");
             x.hold(0);
@@ -305,9 +346,11 @@ final class SeenEdges {
             t.due("PARISH 0 must hold", y.rests(0, 0), 2);
             t.due("PARISH 0 must hold, first", y.rests(0, 1), 20);
         }).brokenIn("isAtRest", "owner == 1 &&", "owner == 2 &&").brokenIn("isAtRest", "owner == 0 &&", "owner == 2 &&");
-        e.edge("who is in the lee of the first cell's tree stays without a string", t -> {
+        e.edge("who is in the lee of a tree stays without a string, on whatever cell it stands", t -> {
             t.due("all four pairs", Due.on("HT01C100020C913410W111").rests(0, 0), 4);
-        }).brokenIn("brookHeld", "1 << b >> 1, 0)", "1 << b >> 1, 1)");
+            for (int tree = 0; tree <= 9; tree++) t.due("tree on " + tree, Due.on(Due.lee(tree, 5, 3)).rests(0, 0), 4);
+        }).brokenIn("brookHeld", "1 << b >> 1, 0)", "1 << b >> 1, 1)")
+                .brokenIn("brookHeld", "1 << b >> 1, 0)", "1 << b >> 1, 2)").brokenIn("brookHeld", "1 << b >> 1, 0)", "1 << b >> 1, 512)");
         e.edge("even, it stays whose it is", t -> {
             // 3 and 3 if PARISH 1 holds, else 3 and 0.
             CockWar x = Due.on("HC403431C510030W111");

@@ -2,6 +2,8 @@
 final class UnderEdges {
     private static final int UNKNOWN = Due.UNKNOWN, OUTSIDE = Due.OUTSIDE, NONE = Due.NONE;
     private static final int LOW = Due.LOW, HIGH = Due.HIGH;
+    /** A wind towards 9 makes the brook PARISH 0's, one towards 0 PARISH 1's. */
+    private static final String EITHER = "HC400050C510030";
 
     private UnderEdges() {}
 
@@ -41,10 +43,18 @@ final class UnderEdges {
             x.hold(0);
             t.due("held", x.under(0), 1);
         }).brokenIn("under", "now.held", "0");
-        e.edge("who is in the lee of the first cell's tree, or of the last one's, stays too", t -> {
-            t.due("tree on 0", Due.on("HT01C110050W111").under(0), 1);
-            t.due("tree on 9", Due.on("HT91C800051C413430W011").under(0), 0);
-        }).brokenIn("under", "now.held, 0)", "now.held, 1)").brokenIn("under", "now.held, 0)", "now.held, 512)");
+        e.edge("who is in the lee of a tree stays too, on whatever cell it stands", t -> {
+            for (int tree = 0; tree <= 9; tree++) {
+                t.due("tree on " + tree, Due.on(Due.lee(tree, 5, 3)).under(0), tree < 9 ? 1 : 0);
+            }
+        }).brokenIn("under", "now.held, 0)", "now.held, 1)")
+                .brokenIn("under", "now.held, 0)", "now.held, 2)").brokenIn("under", "now.held, 0)", "now.held, 512)");
+        e.edge("each wind goes its own way", t -> {
+            for (int number = 0; number < 4; number++) {
+                CockWar x = Due.on(Due.oneTo0(EITHER, number));
+                for (int w = 0; w < 4; w++) t.due("under(" + w + "), to 0 " + number, x.under(w), w == number ? 1 : 0);
+            }
+        }).brokenIn("under", "air.brookUnder(now, wind,", "air.brookUnder(now, 0,");
         e.says("In what follows nothing is changed.");
         e.edge("it only would be", t -> {
             t.asksOnly("under(0)", x -> x.under(0));
@@ -93,7 +103,13 @@ final class UnderEdges {
             t.due("tree on 0, year(1)", x.year(1), 9);
             CockWar y = Due.on("HT91C800051C413430W012W001");
             t.due("tree on 9, year(0)", y.year(0), 3);
-        }).brokenIn("year", "parish, 0)", "parish, 1)").brokenIn("year", "parish, 0)", "parish, 512)");
+            for (int tree = 0; tree <= 9; tree++) {
+                CockWar z = Due.on(Due.lee(tree, 5, 3));
+                t.due("tree on " + tree + ", year(0)", z.year(0), tree < 9 ? 0 : 2);
+                t.due("tree on " + tree + ", year(1)", z.year(1), tree < 9 ? 2 : 0);
+            }
+        }).brokenIn("year", "parish, 0)", "parish, 1)")
+                .brokenIn("year", "parish, 0)", "parish, 2)").brokenIn("year", "parish, 0)", "parish, 512)");
         e.edge("it only would be", t -> t.asksOnly("year(1)", x -> x.year(1)))
                 .brokenIn("year", "return", "now.held = 0;\n return")
                 .brokenIn("yearOf", "brookUnder(ground, w, ground.held, felled)", "blowOver(ground, w)");
@@ -159,12 +175,32 @@ final class UnderEdges {
             // Cell 0 would do, but it is taken; cell 2 does when its tree is felled.
             placed(t, "HT01T21C100020C013430C300020W113", 0, 3, 0, 2, 2);
         }).brokenIn("seek", "&& bit(taken, goal) == 0", "");
+        e.edge("to no cell ahead of the first or behind the last", t -> {
+            // Only beyond the hill's end one could come out of the lee, so that the tree of the other goes.
+            placed(t, "HT03T13T23T33T43T53T63T73T83C900010C800010C013420W111", 0, 0, NONE, NONE, NONE);
+            placed(t, "HT13T23T33T43T53T63T73T83T93C010011C110011C903411W011", 1, 0, NONE, NONE, NONE);
+        }).brokenIn("seek", "int goal = 0", "int goal = -1")
+                .brokenIn("seek", "goal < MOST_CELLS", "goal <= MOST_CELLS");
         e.edge("one cock moves and one tree is felled, no more", t -> {
             // Three in the lee, and all three are needed: 6 against 5; of two it would do.
             placed(t, "HT01T21T41C100020C300020C500020C913450W113", 0, 0, NONE, NONE, NONE);
             placed(t, "HT01T21T41C100030C300030C500030C913450W113", 0, 3, 0, 0, 2);
         }).brokenIn("seek", "put(trial.cells, c, at(now.cells, c));", "")
                 .brokenIn("tryTrees", "parish, 1 << c)", "parish, 3 << c | 3 << c + 1)");
+        e.edge("who does not move is where it is now", t -> {
+            // All three are needed: cock 1 must leave the lee, the tree of cock 2 be felled, cock 0 stay.
+            placed(t, "HT31T51T81C800020C400020C600020C013450W113", 0, 3, 1, 1, 5);
+        }).brokenIn("seek", "at(now.cells, c));", "at(now.cells, c + 1));")
+                .brokenIn("seek", "put(trial.cells, c, at(now.cells, c));", "");
+        e.edge("the one tree that does it, on whatever cell, and none is felled but in its turn", t -> {
+            for (int tree = 0; tree <= 9; tree++) {
+                String text = Due.lee(tree, 5, 3);
+                placed(t, text, tree < 9 ? 1 : 0, 2, NONE, NONE, NONE);
+                placed(t, text, tree < 9 ? 0 : 1, 2, NONE, NONE, tree);
+            }
+        }).brokenIn("tryTrees", "parish, 0)", "parish, 1)")
+                .brokenIn("tryTrees", "parish, 0)", "parish, 2)").brokenIn("tryTrees", "parish, 0)", "parish, 512)")
+                .brokenIn("tryTrees", "1 << c", "2 << c");
         e.edge("who is held now is so then", t -> {
             // Cock 0 is held towards 0: wherever it is, it counts for PARISH 1.
             CockWar x = Due.on("HC410050C500010W113");
@@ -245,6 +281,20 @@ final class UnderEdges {
         }).brokenIn("trees", "Integer.bitCount(felled) < Integer.bitCount(fewest)", "felled < fewest")
                 .brokenIn("trees", "(felled & ~standing) == 0", "felled < 256 && (felled & ~standing) == 0");
         e.says("(bits of CELLS; of like ones the least) that, FELLED, make THE BROOK its own UNDER it; NONE.");
+        e.edge("the one tree that does it, on whatever cell", t -> {
+            for (int tree = 0; tree <= 9; tree++) {
+                CockWar x = Due.on(Due.lee(tree, 5, 3));
+                t.due("tree on " + tree, x.trees(tree < 9 ? 0 : 1, 0), 1 << tree);
+                t.due("none for the other", x.trees(tree < 9 ? 1 : 0, 0), 0);
+            }
+        }).brokenIn("trees", "felled <= ALL_CELLS", "felled < 256")
+                .brokenIn("trees", "for (int felled = 0", "for (int felled = 2");
+        e.edge("under each wind its own", t -> {
+            for (int number = 0; number < 4; number++) {
+                CockWar x = Due.on(Due.oneTo0(EITHER, number));
+                for (int w = 0; w < 4; w++) t.due("trees(1," + w + ")", x.trees(1, w), w == number ? 0 : NONE);
+            }
+        }).brokenIn("trees", "air.brookUnder(now, wind,", "air.brookUnder(now, 0,");
         e.edge("of two trees that do it the lesser", t -> {
             t.due("1, not 4", Due.on("HT01T21C100020C300020C913410W111").trees(0, 0), 1);
         }).brokenIn("trees", "Integer.bitCount(felled) < Integer.bitCount(fewest)",
@@ -310,9 +360,18 @@ final class UnderEdges {
             t.due("one held towards 0", x.decides(0), 1);
         }).brokenIn("decides", "air.waysBehind(now, wind, now.held, 0)", "now.ways")
                 .brokenIn("decides", "air.waysBehind(now, wind, now.held, 0)", "air.waysBehind(now, wind, 0, 0)");
-        e.edge("who is in the lee of the first cell's tree points as before", t -> {
-            t.due("decides(0)", Due.on("HT01C110030C500050W111").decides(0), 2);
-        }).brokenIn("decides", "now.held, 0)", "now.held, 1)");
+        e.edge("who is in the lee of a tree points as before, on whatever cell it stands", t -> {
+            t.due("one towards 9", Due.on("HT01C110030C500050W111").decides(0), 2);
+            // 3 against 6: the 5 alone decides. Were the 3 not in the lee, no one would.
+            for (int tree = 0; tree <= 9; tree++) t.due("tree on " + tree, Due.on(Due.lee(tree, 3, 5, 1)).decides(0), 2);
+        }).brokenIn("decides", "now.held, 0)", "now.held, 1)")
+                .brokenIn("decides", "now.held, 0)", "now.held, 2)").brokenIn("decides", "now.held, 0)", "now.held, 512)");
+        e.edge("under each wind its own", t -> {
+            for (int number = 0; number < 4; number++) {
+                CockWar x = Due.on(Due.oneTo0(EITHER, number));
+                for (int w = 0; w < 4; w++) t.due("decides(" + w + ")", x.decides(w), w == number ? 3 : 0);
+            }
+        }).brokenIn("decides", "air.waysBehind(now, wind,", "air.waysBehind(now, 0,");
         e.says("(even so: it stays whose it was ahead of the WIND).");
         e.edge("even, it stays whose it was", t -> {
             CockWar x = Due.on("HC400031W001W011");
