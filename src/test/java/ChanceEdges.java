@@ -312,12 +312,14 @@ final class ChanceEdges {
         e.edge("no day, and many", t -> {
             CockWar x = Due.on("HW001");
             t.due("keep(0)", x.keep(0), 0);
-            for (int i = 0; i < 200; i++) x.blow(0);
-            t.due("keep(1)", x.keep(1), 200);
+            for (int i = 0; i < 300; i++) x.blow(0);
+            t.due("keep(1)", x.keep(1), 300);
             t.due("again(0)", x.again(0), 0);
-            t.due("again(1)", x.again(1), 200);
+            t.due("again(1)", x.again(1), 300);
             t.due("a new object", new CockWar().keep(0), 0);
         }).brokenIn("store", "return now.days;", "return Math.min(now.days, 14);")
+                .brokenIn("store", "return now.days;", "return now.days & 255;")
+                .brokenIn("fetch", "return now.days;", "return now.days & 255;")
                 .brokenIn("store", "return now.days;", "return Math.max(now.days, 1);");
         e.edge("what was kept ahead is kept no more, the other slot's is", t -> {
             CockWar x = Due.on("HC400010C500010W001");
