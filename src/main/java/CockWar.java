@@ -485,6 +485,7 @@ public final class CockWar {
         return parish == 0 || parish == 1;
     }
 
+    /** A cell beside the hill, -1 or 10, is in no set: -1 comes down to the sign, and no set is below 0. */
     private static int bit(int bits, int place) {
         return bits >> place & 1;
     }

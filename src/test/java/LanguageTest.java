@@ -13,7 +13,7 @@ import java.util.TreeSet;
 import java.util.regex.Matcher;
 import java.util.regex.Pattern;
 
-/** What can be looked up of LANGUAGE.md: the face, by reflection; forbidden words, in the source. */
+/** What can be looked up of LANGUAGE.md: the face, by reflection; words, in the source; the library, in the classes. */
 public final class LanguageTest {
     private static final String SOURCE = "src/main/java/CockWar.java";
     private static final Set<String> FACE = new TreeSet<>(List.of(
@@ -74,7 +74,7 @@ public final class LanguageTest {
         return s.append(")").toString();
     }
 
-    private static void inside() {
+    private static void inside() throws IOException {
         Set<String> publicNames = new TreeSet<>();
         for (String call : FACE) publicNames.add(call.substring(call.indexOf(' ') + 1, call.indexOf('(')));
         List<Class<?>> all = new ArrayList<>(Arrays.asList(CockWar.class.getDeclaredClasses()));
@@ -86,6 +86,7 @@ public final class LanguageTest {
         all.add(CockWar.class);
         for (Class<?> c : all) {
             fields(c);
+            check(Library.forbidden(c).isEmpty(), "no library but what is listed in " + c + ": " + Library.forbidden(c));
             for (Method m : c.getDeclaredMethods()) {
                 boolean own = !publicNames.contains(m.getName()) || !Modifier.isPrivate(m.getModifiers());
                 check(own, "no private method bears a public one's name: " + m);

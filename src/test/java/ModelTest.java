@@ -1,4 +1,5 @@
 import java.util.Random;
+import java.util.function.LongSupplier;
 
 /** Runs of 512 calls by chance (the same ones each time), each answer held against PlainModel's. */
 public final class ModelTest {
@@ -28,9 +29,11 @@ public final class ModelTest {
         while (calls < CALLS && !failed) step();
     }
 
-    private void due(String call, long got, long want) {
+    /** What an object answers behind its 512th call is free: it is not called then. */
+    private void due(String call, LongSupplier asked, LongSupplier wanted) {
+        if (failed || calls == CALLS) return;
         calls++;
-        if (failed || calls > CALLS) return;
+        long got = asked.getAsLong(), want = wanted.getAsLong();
         told.append(call).append(' ');
         if (got != want) {
             failed = true;
@@ -86,10 +89,10 @@ public final class ModelTest {
     }
 
     private void newHill() {
-        due("wipe()", real.wipe(), model.wipe());
-        for (char c : text().toCharArray()) due("write(" + (int) c + ")", real.write(c), model.write(c));
-        due("fault()", real.fault(), model.fault());
-        due("hill()", real.hill(), model.hill());
+        due("wipe()", real::wipe, model::wipe);
+        for (char c : text().toCharArray()) due("write(" + (int) c + ")", () -> real.write(c), () -> model.write(c));
+        due("fault()", real::fault, model::fault);
+        due("hill()", real::hill, model::hill);
     }
 
     private void step() {
@@ -98,108 +101,112 @@ public final class ModelTest {
         else if (dice < 14) act(dice);
         else if (dice < 34) ask(dice);
         else other(dice);
-        for (int what = 3; what <= 9 && chance.nextInt(3) == 0; what++) {
-            due("count(" + what + ")", real.count(what), model.count(what));
-        }
+        for (int what = 3; what <= 9 && chance.nextInt(3) == 0; what++) count(what);
     }
 
     private void act(int dice) {
         int cock = arg(5), cell = arg(9), wind = arg(3);
         switch (dice) {
             case 0: case 1: case 2: case 3:
-                due("blow(" + wind + ")", real.blow(wind), model.blow(wind)); break;
-            case 4: due("fell(" + cell + ")", real.fell(cell), model.fell(cell)); break;
+                due("blow(" + wind + ")", () -> real.blow(wind), () -> model.blow(wind)); break;
+            case 4: due("fell(" + cell + ")", () -> real.fell(cell), () -> model.fell(cell)); break;
             case 5: case 6:
-                due("move(" + cock + "," + cell + ")", real.move(cock, cell), model.move(cock, cell)); break;
-            case 7: due("grease(" + cock + ")", real.grease(cock), model.grease(cock)); break;
+                due("move(" + cock + "," + cell + ")", () -> real.move(cock, cell), () -> model.move(cock, cell)); break;
+            case 7: due("grease(" + cock + ")", () -> real.grease(cock), () -> model.grease(cock)); break;
             case 8: case 9:
-                due("capture(" + cock + ")", real.capture(cock), model.capture(cock)); break;
+                due("capture(" + cock + ")", () -> real.capture(cock), () -> model.capture(cock)); break;
             case 10: case 11: case 12:
-                due("hold(" + cock + ")", real.hold(cock), model.hold(cock)); break;
+                due("hold(" + cock + ")", () -> real.hold(cock), () -> model.hold(cock)); break;
             default:
-                for (int n = chance.nextInt(5); n >= 0; n--) due("undo()", real.undo(), model.undo());
+                for (int n = chance.nextInt(5); n >= 0; n--) due("undo()", real::undo, model::undo);
         }
     }
 
     private void ask(int dice) {
         int cock = arg(5), wind = arg(3), parish = arg(1), what = arg(3), x = arg(10);
         switch (dice) {
-            case 14: due("under(" + wind + ")", real.under(wind), model.under(wind)); break;
-            case 15: due("year(" + parish + ")", real.year(parish), model.year(parish)); break;
+            case 14: due("under(" + wind + ")", () -> real.under(wind), () -> model.under(wind)); break;
+            case 15: due("year(" + parish + ")", () -> real.year(parish), () -> model.year(parish)); break;
             case 16: case 17:
-                due("placing(" + parish + "," + what + ")", real.placing(parish, what),
-                        model.placing(parish, what));
+                due("placing(" + parish + "," + what + ")", () -> real.placing(parish, what),
+                        () -> model.placing(parish, what));
                 break;
             case 18: case 19:
-                due("trees(" + parish + "," + wind + ")", real.trees(parish, wind), model.trees(parish, wind));
+                due("trees(" + parish + "," + wind + ")", () -> real.trees(parish, wind), () -> model.trees(parish, wind));
                 break;
-            case 20: case 21: due("decides(" + wind + ")", real.decides(wind), model.decides(wind)); break;
-            case 22: due("power(" + cock + ")", real.power(cock), model.power(cock)); break;
+            case 20: case 21: due("decides(" + wind + ")", () -> real.decides(wind), () -> model.decides(wind)); break;
+            case 22: due("power(" + cock + ")", () -> real.power(cock), () -> model.power(cock)); break;
             case 23: case 24: judge(); break;
             case 25: case 26:
-                due("strings(" + wind + "," + what + ")", real.strings(wind, what), model.strings(wind, what));
+                due("strings(" + wind + "," + what + ")", () -> real.strings(wind, what), () -> model.strings(wind, what));
                 break;
-            case 27: due("winds()", real.winds(), model.winds()); break;
+            case 27: due("winds()", real::winds, model::winds); break;
             case 28: case 29: {
                 int which = arg(1);
-                due("rests(" + wind + "," + which + ")", real.rests(wind, which), model.rests(wind, which));
+                due("rests(" + wind + "," + which + ")", () -> real.rests(wind, which), () -> model.rests(wind, which));
                 break;
             }
             case 30: case 31: {
                 boolean upper = chance.nextBoolean();
-                due("frost(" + wind + "," + x + "," + upper + ")", real.frost(wind, x, upper),
-                        model.frost(wind, x, upper));
+                due("frost(" + wind + "," + x + "," + upper + ")", () -> real.frost(wind, x, upper),
+                        () -> model.frost(wind, x, upper));
                 break;
             }
             default: {
                 int m = 1 + arg(29);
-                due("years(" + m + ")", real.years(m), model.years(m));
+                due("years(" + m + ")", () -> real.years(m), () -> model.years(m));
             }
         }
     }
 
+    private void count(int what) {
+        due("count(" + what + ")", () -> real.count(what), () -> model.count(what));
+    }
+
     private void judge() {
         int n = chance.nextInt(12) == 0 ? arg(6) : 1 + chance.nextInt(6);
+        int row = row(n);
+        due("judge(" + n + "," + row + ")", () -> real.judge(n, row), () -> model.judge(n, row));
+    }
+
+    /** Mostly n figures of winds that there are. */
+    private int row(int n) {
         int row = 0;
         for (int i = 0; i < n && i < 7; i++) row = 10 * row + Math.max(0, Math.min(9, arg(3)));
         if (chance.nextInt(12) == 0) row = row * 10 + 1;
-        if (chance.nextInt(20) == 0) row = -row;
-        due("judge(" + n + "," + row + ")", real.judge(n, row), model.judge(n, row));
+        return chance.nextInt(20) == 0 ? -row : row;
     }
 
     private void other(int dice) {
         int cock = arg(5), cell = arg(9), wind = arg(3), points = arg(1), slot = arg(1);
         switch (dice) {
-            case 34: due("tree(" + cell + ")", real.tree(cell), model.tree(cell)); break;
+            case 34: due("tree(" + cell + ")", () -> real.tree(cell), () -> model.tree(cell)); break;
             case 35: case 36: {
                 int what = arg(6);
-                due("cock(" + cock + "," + what + ")", real.cock(cock, what), model.cock(cock, what));
+                due("cock(" + cock + "," + what + ")", () -> real.cock(cock, what), () -> model.cock(cock, what));
                 break;
             }
             case 37: {
                 int what = arg(3);
-                due("wind(" + wind + "," + what + ")", real.wind(wind, what), model.wind(wind, what));
+                due("wind(" + wind + "," + what + ")", () -> real.wind(wind, what), () -> model.wind(wind, what));
                 break;
             }
             case 38: case 39:
-                due("see(" + cock + "," + points + ")", real.see(cock, points), model.see(cock, points));
+                due("see(" + cock + "," + points + ")", () -> real.see(cock, points), () -> model.see(cock, points));
                 break;
             case 40:
-                if (chance.nextInt(3) == 0) due("unsee()", real.unsee(), model.unsee());
+                if (chance.nextInt(3) == 0) due("unsee()", real::unsee, model::unsee);
                 break;
             case 41: {
                 long v = chance.nextLong();
-                if (chance.nextInt(3) == 0) due("seed(" + v + ")", real.seed(v), model.seed(v));
+                if (chance.nextInt(3) == 0) due("seed(" + v + ")", () -> real.seed(v), () -> model.seed(v));
                 break;
             }
             case 42:
-                if (chance.nextBoolean()) due("keep(" + slot + ")", real.keep(slot), model.keep(slot));
-                else due("again(" + slot + ")", real.again(slot), model.again(slot));
+                if (chance.nextBoolean()) due("keep(" + slot + ")", () -> real.keep(slot), () -> model.keep(slot));
+                else due("again(" + slot + ")", () -> real.again(slot), () -> model.again(slot));
                 break;
-            default: {
-                int what = arg(10);
-                due("count(" + what + ")", real.count(what), model.count(what));
-            }
+            default: count(arg(10));
         }
     }
 }
